@@ -200,6 +200,10 @@ public final class LawTests {
         holds(due, "!1=2", true);
         holds(due, "!1=1", false);
         holds(due, "!!1=1", true);
+        holds(due, "!1<2", false);
+        holds(due, "!2>1", false);
+        holds(due, "!2<1", true);
+        holds(due, "!1>2", true);
         holds(due, "!1=2&1=2", false);
         holds(due, "!(1=2&1=2)", true);
         holds(due, "!1=1|1=1", true);
@@ -280,6 +284,13 @@ public final class LawTests {
         x.hour(9);
         due.is("l", x.apprenticeIs(0, 14), 5);
         due.is("d", x.owes(0, 2, 0), 41);
+        Due.law(x, "f2-b-k-h(1=1);m1+b+k+h(1=1)");
+        x.on(0, -1);
+        x.on(0, 0);
+        x.keep();
+        due.is("no master in m and f, not the one struck before", x.hour(0), 2);
+        due.is("no master in m and f, not the one struck before", x.roofIs(0, 1), 55 + 1 - 2);
+        x.undo();
         Due.law(x, "f1(s=11)");
         due.is("all trades together in f", x.hour(0), 1);
         Due.law(x, "ms-10(s=11)");

@@ -396,6 +396,9 @@ public final class PromiseTests {
         x.hour(0);
         due.is("l ahead of the bruise: 1, then 2", x.apprenticeIs(0, 10), 3);
         due.is("lies there no more: 4, then 3", x.owes(0, 0, 0), 7);
+        Due.law(x, "ms(1=1)");
+        x.hour(0);
+        due.is("s of TRADE 0 among all", x.roofIs(0, 1), 3 + 3);
         SlateSchool y = site("f3(1=1);l1+s(1=1);ds(1=1)", 9, 9, 1);
         y.hour(0);
         due.is("s of the trade: 1, 2, 4", y.apprenticeIs(0, 10), 7);
@@ -509,10 +512,17 @@ public final class PromiseTests {
         x.roof(30, 30, 0);
         x.apprentice(0);
         x.on(1, 1);
+        x.gear(0, 1, true);
+        due.is("broken, one fewer in each hour", x.tried(2, 3), 7);
+        x.gear(0, 1, false);
         due.is("slates", x.tried(2, 0), 90 - 18);
         due.is("fall", x.tried(2, 1), 18);
         due.is("bruises", x.tried(2, 2), 9);
         due.is("broken", x.tried(2, 3), 9);
+        x.gear(0, 0, true);
+        due.is("bruises, one fewer in each hour", x.tried(2, 2), 7);
+        due.is("broken", x.tried(2, 3), 9);
+        x.gear(0, 0, false);
         due.is("roof 0", x.tried(2, 10), 51);
         due.is("roof 1", x.tried(2, 11), 21);
         due.is("master 0", x.tried(2, 20), 9);
@@ -571,6 +581,14 @@ public final class PromiseTests {
         due.is("2", x.apprenticeIs(2, 0), 1);
         due.is("0 stays", x.apprenticeIs(0, 0), 0);
         due.is("no hour passed", x.count(5) + x.count(9), 0);
+        SlateSchool y = site("m1(a=0&q=1);m1(a=1&q=0);m1(a=2&q=0)", 2, 0, 0);
+        y.roof(9, 0, 0);
+        y.apprentice(0);
+        y.apprentice(0);
+        due.is("within 1", y.set(6, 0, 1, 10), 1);
+        due.is("the rows go round", y.set(3, 1, 20, 0), 1);
+        due.is("the rows go round", y.set(3, 1, 20, 1), 0);
+        due.is("the rows go round", y.set(7, 1, 20, 2), 0);
         x.hours(1);
         due.is("full", x.roofIs(1, 1), 4);
     }
@@ -784,6 +802,7 @@ public final class PromiseTests {
         due.is("rope", x.apprenticeIs(0, 2) + x.apprenticeIs(2, 2), 2);
         due.is("no rope", x.apprenticeIs(3, 2), 0);
         due.is("none left", x.lent(1, 11), 0);
+        lentToAll();
         int[] bad = {-1, 4, 8, 9, 12};
         for (int what : bad) {
             due.is("what " + what, x.lent(1, what), -1);
@@ -795,6 +814,24 @@ public final class PromiseTests {
             due.is("what", x.lent(1, what), -1);
             due.is("k", x.lent(what, 10), -1);
         }
+    }
+
+    private static void lentToAll() {
+        SlateSchool x = fight("m9(1=1);f1(1=1)", 8, 2);
+        strike(x, 7, 0, 1);
+        strike(x, 6, 1, 1);
+        x.keep();
+        for (int b = 2; b < 8; b++) {
+            x.master(0, false);
+            strike(x, b - 2, b, 1);
+        }
+        due.is("eight to eight", x.lent(1, 10), 8);
+        due.is("the first", x.lent(1, 0), 7);
+        due.is("the last", x.lent(1, 7), 5);
+        x.undo();
+        due.is("two are left", x.lent(1, 10), 2);
+        due.is("two are left", x.lent(1, 0), 7);
+        due.is("two are left", x.lent(1, 1), 6);
     }
 
     private static void letGo() {
@@ -810,6 +847,12 @@ public final class PromiseTests {
         due.is("grip", x.letGo(0, 2, 0), 2);
         Due.feedBytes(x, 0, 4);
         due.is("roof", x.letGo(0, 2, 1), 1);
+        Due.feedBytes(x, 0, 9);
+        due.is("grip 9", x.letGo(0, 1, 0), 9);
+        Due.feedBytes(x, 0, 9);
+        due.is("roof", x.letGo(0, 1, 1), 1);
+        Due.feedBytes(x, 0, 30);
+        due.is("grip 5 in six hours, as far as there are any", x.letGo(0, 6, 0), 5);
         Due.feedBytes(x, 0, 0);
         due.is("none: grip 0 on any, or on 0 or none", x.letGo(1, 6, -1), 21);
         Due.feedBytes(x, 0, 0);
@@ -1149,6 +1192,11 @@ public final class PromiseTests {
         x.feed(4, 5, 0, 7, 8);
         x.feed(4, 5, 0, 7, 8);
         due.is("ten", x.check(10), 2);
+        for (int i = 0; i < 3; i++) {
+            x.feed(4, 5, 0, 7, 8);
+        }
+        due.is("eleven", x.check(11), -2);
+        due.is("the tape stays", x.count(4), 60);
     }
 
     private static void count() {
