@@ -920,7 +920,7 @@ public final class SlateSchool {
                     stack[top - 1] = 1 - stack[top - 1];
                 } else if (step == OR || step == AND) {
                     // one that is settled stays on the stack, and what comes behind it isn't asked
-                    if (stack[top - 1] != 0 == (step == OR)) {
+                    if ((stack[top - 1] != 0) == (step == OR)) {
                         at = number;
                     } else {
                         top--;
@@ -1048,32 +1048,38 @@ public final class SlateSchool {
         }
 
         private void readPiece(Law law, int open) {
-            char sign = sign();
-            if ((sign == '!' || sign == '(') && open >= MOST_OPEN) {
-                fail(TOO_DEEP);
-            }
             if (fault != 0) {
                 return;
             }
-            if (sign == '!') {
+            int inner = open;
+            for (int i = 0; i < MOST_OPEN && inner < MOST_OPEN && sign() == '!'; i++) {
                 at++;
-                readPiece(law, open + 1);
-                law.addStep(Law.NOT, 0);
-            } else if (sign == '(') {
+                inner++;
+            }
+            if (inner >= MOST_OPEN && (sign() == '!' || sign() == '(')) {
+                fail(TOO_DEEP);
+            } else if (sign() == '(') {
                 at++;
-                readCondition(law, open + 1);
+                readCondition(law, inner + 1);
                 expect(')');
             } else {
-                readSum(law, open);
-                char comparison = sign();
-                if (fault != 0 || COMPARISONS.indexOf(comparison) < 0) {
-                    fail(CANT_STAND);
-                    return;
-                }
-                at++;
-                readSum(law, open);
-                law.addStep(comparison, 0);
+                readComparison(law, inner);
             }
+            for (int i = open; i < inner; i++) {
+                law.addStep(Law.NOT, 0);
+            }
+        }
+
+        private void readComparison(Law law, int open) {
+            readSum(law, open);
+            char comparison = sign();
+            if (fault != 0 || COMPARISONS.indexOf(comparison) < 0) {
+                fail(CANT_STAND);
+                return;
+            }
+            at++;
+            readSum(law, open);
+            law.addStep(comparison, 0);
         }
 
         private void readSum(Law law, int open) {

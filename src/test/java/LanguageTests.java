@@ -291,6 +291,7 @@ public final class LanguageTests {
         }
 
         private int depth(Element method, List<Element> open) {
+            look(open.isEmpty() || open.get(open.size() - 1) != method, "rule 8: " + method + " calls itself");
             if (open.contains(method)) {
                 look(isDescent(method), "rule 8: a recursion of " + method);
                 return 0;
