@@ -8,6 +8,10 @@ final class Due {
         promise = "promise " + number;
     }
 
+    void terms(String sentence) {
+        promise = "terms, " + sentence;
+    }
+
     void is(String call, long got, long want) {
         asked++;
         if (got != want) {

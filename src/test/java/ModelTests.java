@@ -5,12 +5,15 @@ public final class ModelTests {
     private static final String[] FACTORS = {"a", "g", "s", "o", "q", "n", "e", "t", "w", "b", "k", "h"};
     private static final int[] EXTREMES = {Integer.MIN_VALUE, -10000, -3, -2, -1, 10, 11, 12, 40, 41, 99, 100, 255, 256,
         65535, 65536, Integer.MAX_VALUE};
+    // an object is used for so many; one step takes fewer than thirty
+    private static final int MOST_CALLS = 512;
     private final Random random;
     private final SlateSchool x = new SlateSchool();
     private final Model model = new Model();
     private final StringBuilder run = new StringBuilder();
     private boolean wrong = false;
     private boolean isLively = false;
+    private int calls = 0;
 
     private ModelTests(int number) {
         random = new Random(number);
@@ -43,11 +46,10 @@ public final class ModelTests {
         }
         boolean isOrdinary = random.nextInt(8) > 0;
         isLively = random.nextInt(3) > 0;
-        int calls = 0;
         if (isOrdinary) {
-            calls = begin();
+            begin();
         }
-        for (; calls < 512 && !wrong; calls++) {
+        for (int i = 0; i < MOST_CALLS && calls < MOST_CALLS - 30 && !wrong; i++) {
             callOne();
             if (run.length() > 20000) {
                 run.delete(0, 10000);
@@ -101,7 +103,7 @@ public final class ModelTests {
         same("settled", x.settled(1), model.settled(1), 1);
     }
 
-    private int begin() {
+    private void begin() {
         int roofs = 1 + random.nextInt(4);
         int apprentices = 1 + random.nextInt(5);
         int masters = 1 + random.nextInt(5);
@@ -123,10 +125,10 @@ public final class ModelTests {
             below(i, random.nextInt(roofs));
         }
         law(lawText());
-        return 60;
     }
 
     private void same(String call, long got, long want, int... with) {
+        calls++;
         run.append(call).append('(');
         for (int i = 0; i < with.length; i++) {
             run.append(i > 0 ? ", " : "").append(with[i]);

@@ -1134,26 +1134,27 @@ public final class PromiseTests {
         due.is("fell", x.apprenticeIs(1, 4) + x.apprenticeIs(1, 3) + x.apprenticeIs(1, 2), 0);
     }
 
+    /** Of the first three of each, so that twice of it is within what an object is used for. */
     private static int[] state(SlateSchool x) {
-        int[] all = new int[10 + 100 + 10 * 5 + 8 * 15 + 8 * 5 + 128];
+        int[] all = new int[10 + 10 + 3 * 5 + 3 * 15 + 3 * 5 + 18];
         int n = 0;
         for (int i = 0; i < 10; i++) {
             all[n++] = x.count(i);
         }
-        for (int h = 0; h < 100; h++) {
+        for (int h = 0; h < 10; h++) {
             all[n++] = x.count(100 + h);
         }
-        for (int i = 0; i < 10 * 5; i++) {
+        for (int i = 0; i < 3 * 5; i++) {
             all[n++] = x.roofIs(i / 5, i % 5);
         }
-        for (int i = 0; i < 8 * 15; i++) {
+        for (int i = 0; i < 3 * 15; i++) {
             all[n++] = x.apprenticeIs(i / 15, i % 15);
         }
-        for (int i = 0; i < 8 * 5; i++) {
+        for (int i = 0; i < 3 * 5; i++) {
             all[n++] = x.masterIs(i / 5, i % 5);
         }
-        for (int i = 0; i < 128; i++) {
-            all[n++] = x.owes(i / 16, i / 2 % 8, i % 2);
+        for (int i = 0; i < 18; i++) {
+            all[n++] = x.owes(i / 6, i / 2 % 3, i % 2);
         }
         return all;
     }
