@@ -634,6 +634,10 @@ public final class EdgeTests {
         Due.feedBytes(last, 0, 0, 0, 0, 0, 0, 0, 0, 9);
         due.is("what is behind them does not count", last.letGo(0, 1, 0), 0);
         due.is("empty then", last.count(4), 0);
+        last.on(0, 0);
+        last.hour(0);
+        Due.feedBytes(last, 0, 0, 0, 0, 0, 0, 0, 3);
+        due.is("BRUISES more, not all", last.letGo(0, 1, -1), 10);
     }
 
     private static void settledEnds() {
@@ -931,6 +935,10 @@ public final class EdgeTests {
         due.is("103: HOUR 3", x.count(103), 1);
         x.snow(99, true);
         x.snow(0, true);
+        SlateSchool three = withMasters("f4(1=1)", 99, 99, 3);
+        three.hour(0);
+        due.is("BRUISES of all", three.count(8), 4);
+        due.is("BRUISES of all behind two HOURS more", three.tried(2, 2), 12);
         due.is("100: HOUR 0", x.count(100), 1);
         due.is("199: HOUR 99", x.count(199), 1);
         due.is("200", x.count(200), -1);

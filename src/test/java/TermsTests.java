@@ -413,6 +413,10 @@ public final class TermsTests {
         holds("!!1=1", true);
         holds("!!!1=1", false);
         holds("!(!(1=1))", true);
+        holds("!1<2", false);
+        holds("!2>1", false);
+        holds("!2<1", true);
+        holds("!1>2", true);
     }
 
     private static void comparisons() {
@@ -536,6 +540,7 @@ public final class TermsTests {
         holds("1=2&1/0=0|1=1", true);
         holds("1=1&1/0=0|1=1", false);
         holds("1=1&1=2&1/0=0|1=1", true);
+        holds("1=2&1/0=0&1/0=0|1=1", true);
         holds("!(1=1|1/0=0)|1=1", true);
         holds("!(1=2&1/0=0)", true);
         holds("!(1=2&1/0=0)&(1=1|1/0=0)", true);
@@ -690,6 +695,8 @@ public final class TermsTests {
         fault("m1](1=1)", -1002);
         fault("m1(([1=1])", -1006);
         fault("m1()", -1003);
+        fault("m1(1)", -1004);
+        fault("m1(1=1&1)", -1008);
         fault("m[](1=1)", -1002);
         fault("m1((1=1)(1=1))", -1008);
         fault("m1(1=1!1=1)", -1006);
