@@ -774,7 +774,7 @@ final class Model {
         }
         int[] best = null;
         for (int length = 0; length <= 7 && best == null; length++) {
-            best = chainOf(b, c, new int[length], 0);
+            best = chainOf(b, c, new int[length], 0, new boolean[64]);
         }
         if (best == null) {
             return -2;
@@ -782,17 +782,20 @@ final class Model {
         return what == -1 ? best.length : what < best.length ? best[what] : -3;
     }
 
-    /** The least row of just this length, by all ways. */
-    private int[] chainOf(int at, int c, int[] row, int i) {
+    /** The least row of just this length, by all ways but those on from where none was found before. */
+    private int[] chainOf(int at, int c, int[] row, int i, boolean[] barren) {
         if (i == row.length) {
             return at == c ? row.clone() : null;
+        }
+        if (barren[at * 8 + i]) {
+            return null;
         }
         for (int a = 0; a < world.apprentices.size(); a++) {
             int[] best = null;
             for (int b = 0; b < world.masters.size(); b++) {
                 if (b != at && owes(a, at, 1) > 0 && owes(a, b, 1) > 0) {
                     row[i] = a;
-                    int[] is = chainOf(b, c, row, i + 1);
+                    int[] is = chainOf(b, c, row, i + 1, barren);
                     if (is != null && (best == null || Arrays.compare(is, best) < 0)) {
                         best = is;
                     }
@@ -802,6 +805,7 @@ final class Model {
                 return best;
             }
         }
+        barren[at * 8 + i] = true;
         return null;
     }
 

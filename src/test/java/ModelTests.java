@@ -20,7 +20,7 @@ public final class ModelTests {
     }
 
     public static void main(String[] args) {
-        int runs = args.length > 0 ? Integer.parseInt(args[0]) : 250;
+        int runs = args.length > 0 ? Integer.parseInt(args[0]) : 1000;
         int from = args.length > 1 ? Integer.parseInt(args[1]) : 0;
         int wrongRuns = 0;
         for (int i = from; i < from + runs; i++) {
