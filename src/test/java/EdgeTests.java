@@ -27,6 +27,7 @@ public final class EdgeTests {
         worthEnds();
         lentEnds();
         lentLike();
+        lentAgain();
         letGoEnds();
         letGoBytes();
         settledEnds();
@@ -563,6 +564,21 @@ public final class EdgeTests {
         for (int a = 0; a < 8; a++) {
             due.is("rope of " + a, x.apprenticeIs(a, 2), ropes[a]);
         }
+    }
+
+    private static void lentAgain() {
+        due.promise(20);
+        SlateSchool x = yard("m9(1=1);f1(1=1)", 2, 1);
+        strike(x, 0, 0);
+        strike(x, 1, 0);
+        due.is("to the first one", x.lent(1, 0), 0);
+        due.is("one ROPE", x.lent(1, 11), 1);
+        due.is("a MASTER with a BRUISE has one, whatever it lent before", x.lent(1, 10), 1);
+        due.is("to the other one", x.lent(1, 0), 1);
+        due.is("it is so", x.lent(1, 11), 1);
+        due.is("both have one", x.apprenticeIs(0, 2) + x.apprenticeIs(1, 2), 2);
+        x.gear(0, 0, false);
+        due.is("taken from it, it is one without", x.lent(1, 0), 0);
     }
 
     private static void letGoEnds() {
